@@ -20,12 +20,15 @@ public final class AskNext {
     private static final int LAST_MINUTE = 9999;
 
     private static final int HUNDRED = 100;
+    private static final int GREATEST_INT = 2147483647;
+    private static final int LEAST_INT = -2147483648;
     private static final int NONE = 99999;
     private static final int LOST = 99999;
     private static final int LOST_IN_SUMS = 999;
     private static final int STEPS = 200;
     private static final int NOBODY = -1;
     private static final int NOWHERE = -1;
+    private static final int NO_WORLD = -1;
     private static final long HEAVIEST = 100000000000L;
 
     private static final int BYTES = 0;
@@ -42,13 +45,13 @@ public final class AskNext {
     private static final int NO_FAILURE = -15;
     private static final long REFUSED_LONG = -4000000000000000000L;
 
-    private final Land now = new Land();
+    private final Walker walker = new Walker();
+    private final Land now = walker.land;
     private final Land imaged = new Land();
     private final Land trial = new Land();
     private final Thought thought = new Thought();
     private final Thought imagedThought = new Thought();
     private final Thought afterAnswer = new Thought();
-    private final Walker walker = new Walker(now);
     private final Reader reader = new Reader();
     private final Rule plain = new Rule(0);
     private final Rule thinking = new Think(0);
@@ -167,30 +170,29 @@ public final class AskNext {
         if (!isCrossing(crossing) || !isAnswer(answer)) {
             return NO_SUCH;
         }
-        if (!now.isReady() || !thought.hear(now, crossing, answer)) {
-            return CANNOT_BE;
-        }
-        return thought.likeliest();
+        thought.hear(now, crossing, answer);
+        return likeliestAfterwards();
     }
 
     public int found(int road, boolean open) {
         if (!now.hasRoad(road)) {
             return NO_SUCH;
         }
-        if (!now.isReady() || !thought.findRoad(now, road, open)) {
-            return CANNOT_BE;
-        }
-        return thought.likeliest();
+        thought.findRoad(now, road, open);
+        return likeliestAfterwards();
     }
 
     public int same(int crossing, int answer, int q) {
         if (!isCrossing(crossing) || !isAnswer(answer) || q < 0 || q > HUNDRED) {
             return NO_SUCH;
         }
-        if (!now.isReady() || !thought.hearTwice(now, crossing, answer, q)) {
-            return CANNOT_BE;
-        }
-        return thought.likeliest();
+        thought.hearTwice(now, crossing, answer, q);
+        return likeliestAfterwards();
+    }
+
+    /** The LIKELIEST after what was heard or found; a refusal, if that can't be. */
+    private int likeliestAfterwards() {
+        return now.isReady() && thought.settles() ? thought.likeliest() : CANNOT_BE;
     }
 
     public long think(int world, int part) {
@@ -246,7 +248,8 @@ public final class AskNext {
         if (!now.isReady()) {
             return CANNOT_BE;
         }
-        return walker.walkByMind(plain, thought, world, from);
+        walker.setOutByMind(plain, thought, world, from);
+        return walker.minutesThere();
     }
 
     public long worth(int crossing) {
@@ -284,12 +287,14 @@ public final class AskNext {
     private long gainAt(int crossing) {
         long gain = 0;
         for (int w = 0; w < now.worlds; w++) {
-            gain += HUNDRED * thought.weights[w] * minutesInSums(thought, w, crossing);
+            walker.setOutByMind(plain, thought, w, crossing);
+            gain += HUNDRED * thought.weights[w] * inSums(walker.minutesThere());
         }
         for (int answer = NOBODY; answer < now.worlds; answer++) {
             afterAnswer.becomeLike(thought);
+            afterAnswer.hear(now, crossing, answer);
             // an ANSWER that no WORLD with a weight gives has no hundredths to count
-            if (afterAnswer.hear(now, crossing, answer)) {
+            if (afterAnswer.settles()) {
                 gain -= spentAfter(crossing, answer);
             }
         }
@@ -302,14 +307,14 @@ public final class AskNext {
         for (int w = 0; w < now.worlds; w++) {
             long share = thought.weights[w] * odds[w];
             if (share > 0) {
-                spent += share * minutesInSums(afterAnswer, w, crossing);
+                walker.setOutByMind(plain, afterAnswer, w, crossing);
+                spent += share * inSums(walker.minutesThere());
             }
         }
         return spent;
     }
 
-    private int minutesInSums(Thought mind, int world, int from) {
-        int minutes = walker.walkByMind(plain, mind, world, from);
+    private static int inSums(int minutes) {
         return minutes == LOST ? LOST_IN_SUMS : minutes;
     }
 
@@ -324,7 +329,8 @@ public final class AskNext {
         if (!now.isReady()) {
             return CANNOT_BE;
         }
-        int minutes = walker.walkByRule(rule, world, z, NOWHERE);
+        walker.setOutByRule(rule, world, z, NOWHERE);
+        int minutes = walker.minutesThere();
         switch (what) {
             case 0: return minutes;
             case 1: return walker.asked;
@@ -350,8 +356,8 @@ public final class AskNext {
         int together = 0;
         for (int w = 0; w < now.worlds; w++) {
             for (int i = 0; i < n; i++) {
-                int minutes = walker.walkByRule(rule, w, z + i, post);
-                together += now.chances[w] * (minutes == LOST ? LOST_IN_SUMS : minutes);
+                walker.setOutByRule(rule, w, z + i, post);
+                together += now.chances[w] * inSums(walker.minutesThere());
             }
         }
         return together;
@@ -371,8 +377,9 @@ public final class AskNext {
         int together = 0;
         for (int w = 0; w < now.worlds; w++) {
             for (int i = 0; i < n; i++) {
+                walker.setOutByRule(rule, w, z + i, NOWHERE);
                 // LOST is later than any MINUTE that can be told
-                if (walker.walkByRule(rule, w, z + i, NOWHERE) <= minute) {
+                if (walker.minutesThere() <= minute) {
                     together += now.chances[w];
                 }
             }
@@ -398,7 +405,7 @@ public final class AskNext {
             return CANNOT_BE;
         }
         int bestPlace = 0;
-        int leastMean = Integer.MAX_VALUE;
+        int leastMean = GREATEST_INT;
         for (int i = 0; i < kinds.elements.length; i++) {
             int mean = meanOf(ruleOf(kinds.elements[i], figure), n, z, NOWHERE);
             if (mean < leastMean) {
@@ -430,7 +437,7 @@ public final class AskNext {
             return CANNOT_BE;
         }
         int bestCrossing = 0;
-        int leastMean = Integer.MAX_VALUE;
+        int leastMean = GREATEST_INT;
         for (int c = 0; c < CROSSINGS; c++) {
             int mean = meanOf(thinking, n, z, c);
             if (mean < leastMean) {
@@ -887,12 +894,12 @@ public final class AskNext {
 
     /** Reads a LAND from the bytes of a ROW: first its form, to its end; then STATEMENT behind STATEMENT. */
     private static final class Reader {
-        private Row text = new Row(BYTES, 0);
+        private int[] bytes = new int[0];
         private final int[] told = new int[3];
 
         /** How many STATEMENTS the LAND took; or the FAULT, and then the LAND may have taken some. */
         int readInto(Row row, Land land) {
-            text = row;
+            bytes = row.elements;
             int statements = statementsInForm();
             return statements < 0 ? statements : tellTo(land, statements);
         }
@@ -902,7 +909,7 @@ public final class AskNext {
             int at = 0;
             int statements = 0;
             // a STATEMENT has more than one byte: there are never so many of them
-            while (statements < ELEMENTS && (statements == 0 || text.hasPlace(at))) {
+            while (statements < ELEMENTS && (statements == 0 || at < bytes.length)) {
                 int behind = placeBehind(at);
                 if (behind < 0) {
                     return -1000 - ~behind;
@@ -918,7 +925,7 @@ public final class AskNext {
             int at = 0;
             for (int i = 0; i < statements; i++) {
                 int behind = placeBehind(at);
-                if (!isTaken(byteAt(at), land)) {
+                if (!isTold(byteAt(at), land)) {
                     return -2000 - at;
                 }
                 at = behind;
@@ -973,7 +980,7 @@ public final class AskNext {
 
         /** The byte at a place; behind the last one a number that no sign has. */
         private int byteAt(int at) {
-            return text.hasPlace(at) ? text.elements[at] : 0;
+            return at >= 0 && at < bytes.length ? bytes[at] : 0;
         }
 
         /** How many digits of a NUMBER stand from a place on; behind a leading 0 none counts. */
@@ -1000,7 +1007,8 @@ public final class AskNext {
             return number;
         }
 
-        private boolean isTaken(int letter, Land land) {
+        /** Tells the LAND the STATEMENT whose numbers were read; false, if it isn't as told. */
+        private boolean isTold(int letter, Land land) {
             switch (letter) {
                 case 'r': return land.addRoad(told[0], told[1], told[2]);
                 case 'w': return land.addWorld(told[0], told[1], told[2]);
@@ -1013,7 +1021,7 @@ public final class AskNext {
         }
     }
 
-    /** A weight for each WORLD; a change by which all would be 0 is not made, and answers false. */
+    /** A weight for each WORLD. What is heard or found makes fresh ones, which hold only when they settle. */
     private static final class Thought {
         final long[] weights = new long[WORLDS];
         private final long[] fresh = new long[WORLDS];
@@ -1052,52 +1060,47 @@ public final class AskNext {
             return together > 0 ? HUNDRED * weights[world] / together : 0;
         }
 
-        boolean hear(Land land, int crossing, int answer) {
+        void hear(Land land, int crossing, int answer) {
             int[] odds = land.odds[Land.oddsPlace(crossing, answer)];
             for (int w = 0; w < WORLDS; w++) {
                 fresh[w] = weights[w] * odds[w];
             }
-            return isTaken();
         }
 
         /** Two ANSWERS alike, of whom the second had it from the first with q hundredths. */
-        boolean hearTwice(Land land, int crossing, int answer, int q) {
+        void hearTwice(Land land, int crossing, int answer, int q) {
             int[] odds = land.odds[Land.oddsPlace(crossing, answer)];
             for (int w = 0; w < WORLDS; w++) {
                 fresh[w] = weights[w] * odds[w] * (HUNDRED * q + (HUNDRED - q) * odds[w]);
             }
-            return isTaken();
         }
 
-        boolean findRoad(Land land, int road, boolean open) {
+        void findRoad(Land land, int road, boolean open) {
             for (int w = 0; w < WORLDS; w++) {
                 fresh[w] = land.isShut(w, road) == open ? 0 : weights[w];
             }
-            return isTaken();
         }
 
-        boolean findNoGoal(Land land, int crossing) {
+        void findNoGoal(Land land, int crossing) {
             for (int w = 0; w < WORLDS; w++) {
                 fresh[w] = land.goals[w] == crossing ? 0 : weights[w];
             }
-            return isTaken();
         }
 
-        boolean giveUp(int world) {
+        void giveUp(int world) {
             for (int w = 0; w < WORLDS; w++) {
                 fresh[w] = w == world ? 0 : weights[w];
             }
-            return isTaken();
         }
 
-        boolean believe(int world) {
+        void believe(int world) {
             for (int w = 0; w < WORLDS; w++) {
                 fresh[w] = w == world ? weights[w] : 0;
             }
-            return isTaken();
         }
 
-        private boolean isTaken() {
+        /** Takes the fresh weights, divided and halved; false, and no change, if all of them are 0. */
+        boolean settles() {
             long divisor = 0;
             long greatest = 0;
             for (int w = 0; w < WORLDS; w++) {
@@ -1139,9 +1142,9 @@ public final class AskNext {
         }
     }
 
-    /** One WALK after another in a LAND; what the last one asked and went can be read. */
+    /** One WALK after another in its LAND; what the last one asked and went can be read. */
     private static final class Walker {
-        private final Land land;
+        final Land land = new Land();
         private final Thought mind = new Thought();
         private final int[] votes = new int[WORLDS];
         private Rule rule = new Rule(0);
@@ -1154,26 +1157,20 @@ public final class AskNext {
         int asked;
         int gone;
 
-        Walker(Land land) {
-            this.land = land;
-        }
-
-        /** MINUTES, or LOST, from a CROSSING by a THOUGHT that stays as it is. */
-        int walkByMind(Rule by, Thought thought, int trueWorld, int from) {
+        /** From a CROSSING by a THOUGHT, which stays as it is. */
+        void setOutByMind(Rule by, Thought thought, int trueWorld, int from) {
             setOut(by, trueWorld, from, NOWHERE);
             mind.becomeLike(thought);
-            return goOn();
         }
 
-        /** MINUTES, or LOST, from START by a RULE, a seed and a POST (or NOWHERE). */
-        int walkByRule(Rule by, int trueWorld, int seed, int postAt) {
+        /** From START by a RULE, a seed and a POST (or NOWHERE). */
+        void setOutByRule(Rule by, int trueWorld, int seed, int postAt) {
             setOut(by, trueWorld, land.start, postAt);
             z = seed;
             mind.becomeChances(land);
             if (!isThere()) {
                 believeAtStart();
             }
-            return goOn();
         }
 
         private void setOut(Rule by, int trueWorld, int from, int postAt) {
@@ -1191,7 +1188,8 @@ public final class AskNext {
             return at == land.goals[world];
         }
 
-        private int goOn() {
+        /** Goes all the WALK that was set out on: its MINUTES, or LOST. */
+        int minutesThere() {
             boolean comes = true;
             for (int steps = 0; steps < STEPS; steps++) {
                 if (isThere()) {
@@ -1199,9 +1197,12 @@ public final class AskNext {
                 }
                 if (comes && rule.asksOnComing(mind)) {
                     thinkAfterAnswer();
+                    // an ANSWER by which all would be 0 changes nothing
+                    mind.settles();
                 }
                 int goneBefore = gone;
-                if (!stepOn() && !beginAgain()) {
+                stepOn();
+                if (!mind.settles() && !beginsAgain()) {
                     return LOST;
                 }
                 comes = gone > goneBefore;
@@ -1209,28 +1210,26 @@ public final class AskNext {
             return LOST;
         }
 
-        /** One step; false, if the THOUGHT would be all 0 by it. */
-        private boolean stepOn() {
+        private void stepOn() {
             int likeliest = mind.likeliest();
-            if (land.goals[likeliest] == at) {
-                return mind.findNoGoal(land, at);
-            }
             int road = land.nextRoads[likeliest][at];
-            if (!land.hasRoad(road)) {
-                return mind.giveUp(likeliest);
+            if (land.goals[likeliest] == at) {
+                mind.findNoGoal(land, at);
+            } else if (!land.hasRoad(road)) {
+                mind.giveUp(likeliest);
+            } else if (land.isShut(world, road)) {
+                mind.findRoad(land, road, false);
+            } else {
+                minutes += land.minutes[road];
+                gone++;
+                at = land.otherEnd(road, at);
+                mind.findRoad(land, road, true);
             }
-            if (land.isShut(world, road)) {
-                return mind.findRoad(land, road, false);
-            }
-            minutes += land.minutes[road];
-            gone++;
-            at = land.otherEnd(road, at);
-            return mind.findRoad(land, road, true);
         }
 
         /** CHANCES again, where the RULE has that and had it not yet in this WALK. */
-        private boolean beginAgain() {
-            if (renewed || !rule.beginsAgain()) {
+        private boolean beginsAgain() {
+            if (renewed || !rule.hasSecondThoughts()) {
                 return false;
             }
             renewed = true;
@@ -1239,19 +1238,15 @@ public final class AskNext {
         }
 
         private void believeAtStart() {
-            int told = rule.toldWorld();
-            if (land.hasWorld(told)) {
-                mind.believe(told);
-            }
             int times = rule.asksAtStart();
-            if (times > 0) {
-                int most = mostSaid(times);
-                if (most != NOBODY) {
-                    mind.believe(most);
-                }
+            int believed = times > 0 ? mostSaid(times) : rule.toldWorld();
+            if (land.hasWorld(believed)) {
+                mind.believe(believed);
+                mind.settles();
             }
         }
 
+        /** WORLD that most said, of several the least; NO_WORLD, if all were nobody. */
         private int mostSaid(int times) {
             for (int w = 0; w < WORLDS; w++) {
                 votes[w] = 0;
@@ -1268,7 +1263,7 @@ public final class AskNext {
                     most = w;
                 }
             }
-            return votes[most] > 0 ? most : NOBODY;
+            return votes[most] > 0 ? most : NO_WORLD;
         }
 
         private void thinkAfterAnswer() {
@@ -1288,7 +1283,7 @@ public final class AskNext {
             if (at == post) {
                 return world;
             }
-            int sort = land.metWith(at, (z & Integer.MAX_VALUE) / 65536 % HUNDRED);
+            int sort = land.metWith(at, (z & GREATEST_INT) / 65536 % HUNDRED);
             return sort == NOBODY ? NOBODY : land.saidBy(sort, at, world);
         }
     }
@@ -1313,13 +1308,13 @@ public final class AskNext {
             return false;
         }
 
-        /** WORLD that is believed from the first on, or NOWHERE. */
+        /** WORLD that is believed from the first on, or NO_WORLD. */
         int toldWorld() {
-            return NOWHERE;
+            return NO_WORLD;
         }
 
         /** Whether a THOUGHT that would be all 0 is CHANCES again. */
-        boolean beginsAgain() {
+        boolean hasSecondThoughts() {
             return false;
         }
 
@@ -1335,18 +1330,15 @@ public final class AskNext {
             super(figure);
         }
 
-        @Override
         int heaviness() {
             return super.heaviness() + 1;
         }
 
-        @Override
         int asksAtStart() {
             return 1;
         }
 
-        @Override
-        boolean beginsAgain() {
+        boolean hasSecondThoughts() {
             return true;
         }
     }
@@ -1356,17 +1348,14 @@ public final class AskNext {
             super(figure);
         }
 
-        @Override
         int heaviness() {
             return super.heaviness() + figure;
         }
 
-        @Override
         int asksAtStart() {
             return figure;
         }
 
-        @Override
         void fail() {
             if (figure > 0) {
                 throw new UnsupportedOperationException("a most's failure");
@@ -1379,12 +1368,10 @@ public final class AskNext {
             super(figure);
         }
 
-        @Override
         int heaviness() {
             return 2 * super.heaviness();
         }
 
-        @Override
         boolean asksOnComing(Thought mind) {
             return true;
         }
@@ -1395,17 +1382,14 @@ public final class AskNext {
             super(figure);
         }
 
-        @Override
         int heaviness() {
             return super.heaviness() + figure;
         }
 
-        @Override
         boolean asksOnComing(Thought mind) {
             return HUNDRED * mind.weights[mind.likeliest()] < figure * mind.all();
         }
 
-        @Override
         void fail() {
             if (figure > 0) {
                 throw new NoSuchElementException("a back's failure");
@@ -1418,22 +1402,18 @@ public final class AskNext {
             super(figure);
         }
 
-        @Override
         int heaviness() {
             return super.heaviness() + 10 * figure;
         }
 
-        @Override
         int toldWorld() {
             return figure;
         }
 
-        @Override
-        boolean beginsAgain() {
+        boolean hasSecondThoughts() {
             return true;
         }
 
-        @Override
         void fail() {
             // a told one has no failure
         }
@@ -1470,7 +1450,7 @@ public final class AskNext {
             switch (sort) {
                 case BYTES: return -128;
                 case SHORTS: return -32768;
-                default: return Integer.MIN_VALUE;
+                default: return LEAST_INT;
             }
         }
     }

@@ -37,8 +37,8 @@ public final class ModelTest {
     }
 
     private void same(String call, long got, long want) {
+        checks.due(got == want ? call : String.join("\n", told) + "\n" + call, got, want);
         told.add(call + " " + want);
-        checks.due(told.size() > 0 && got != want ? String.join("\n", told) + "\n" + call : call, got, want);
     }
 
     private int upTo(int n) {
@@ -178,9 +178,10 @@ public final class ModelTest {
             case 21:
             case 22:
             case 23: byRule(d, w, z); break;
-            case 24: same("mean " + d, x.mean(d, n, z), m.mean(d, n, z)); break;
+            case 24: d = keepRule(d); same("mean " + d, x.mean(d, n, z), m.mean(d, n, z)); break;
             case 25:
-                int minute = random.nextInt(4) == 0 ? about(10000) : about(100);
+                d = keepRule(d);
+                int minute = random.nextInt(4) == 0 ? about(10000) : about(60);
                 same("dusk " + d, x.dusk(d, n, z, minute), m.dusk(d, n, z, minute));
                 break;
             case 26: best(n, z); break;
@@ -201,7 +202,8 @@ public final class ModelTest {
                 int k = about(6);
                 int figure = random.nextBoolean() ? about(6) : about(100);
                 int what = about(2);
-                same("keep " + d + " " + what + " " + k + " " + figure, x.keep(d, what, k, figure), m.keep(d, what, k, figure));
+                String call = "keep " + d + " " + what + " " + k + " " + figure;
+                same(call, x.keep(d, what, k, figure), m.keep(d, what, k, figure));
                 break;
             case 32: int size = about(5); same("row", x.row(d, i, size), m.row(d, i, size)); break;
             case 33: size = about(101); same("row", x.row(d, j, size), m.row(d, j, size)); break;
@@ -229,13 +231,19 @@ public final class ModelTest {
         same("judge", x.judge(1), m.judge(1));
     }
 
-    private void byRule(int d, int w, int z) {
-        if (random.nextInt(3) > 0) {
-            int kind = upTo(6);
-            int figure = kind == 2 || kind == 5 ? upTo(6) : upTo(100);
-            d = 2;
-            same("keep 2 1 " + kind + " " + figure, x.keep(2, 1, kind, figure), m.keep(2, 1, kind, figure));
+    /** Mostly a new rule on shelf 2; else what is on that shelf. */
+    private int keepRule(int d) {
+        if (random.nextInt(4) == 0) {
+            return d;
         }
+        int kind = upTo(6);
+        int figure = kind == 2 || kind == 5 ? upTo(6) : upTo(100);
+        same("keep 2 1 " + kind + " " + figure, x.keep(2, 1, kind, figure), m.keep(2, 1, kind, figure));
+        return 2;
+    }
+
+    private void byRule(int shelf, int w, int z) {
+        int d = keepRule(shelf);
         for (int what = -1; what <= 3; what++) {
             same("by " + d + " " + w + " " + z + " " + what, x.by(d, w, z, what), m.by(d, w, z, what));
         }

@@ -8,6 +8,8 @@ public final class PromiseTest {
     private static final String LAND = "r01 10;r12 5;r03 7;r31 1;w60 2 0;w40 3 1;s0 0;s1 1;m00 50;m01 30;";
     /** Goals on both sides of 0, and one who knows at 0: asking is worth something. */
     private static final String FORK = "r01 10;r02 10;w50 1 0;w50 2 0;s0 0;m00 100;";
+    /** The same with half of them who know, and three in ten who think they know. */
+    private static final String DOUBT = "r01 10;r02 10;w60 1 0;w40 2 0;s0 0;s1 1;m00 50;m01 30;";
     /** The goal of world 1 can't be reached. */
     private static final String ISLAND = "r01 10;w60 1 0;w40 3 0;";
 
@@ -437,6 +439,14 @@ public final class PromiseTest {
             one.answer(0, 0);
         }
         due("1 at least", one.think(1, 0), 1);
+        AskNext two = Checks.with("w50 1 0;w50 2 0;s0 0;s1 0;m00 96;m01 1;m10 97;m11 2;");
+        for (int i = 0; i < 5; i++) {
+            two.answer(0, 0);
+        }
+        two.answer(1, 0);
+        // 99 times 97 to the fifth, and 2: halved four times
+        due("2 becomes 1", two.think(1, 0), 1);
+        due("halved four times", two.think(1, 1), 99L * 8587340257L / 16 + 1);
         AskNext edge = Checks.with("w50 1 0;w50 2 0;s0 0;s1 0;m00 90;m01 10;m10 99;m11 1;");
         for (int i = 0; i < 5; i++) {
             edge.answer(1, 0);
@@ -646,16 +656,20 @@ public final class PromiseTest {
     }
 
     private void byFirstAndMost() {
-        AskNext x = Checks.with(LAND);
+        AskNext x = Checks.with(DOUBT);
         x.keep(1, 1, 1, 5);
-        // 7 draws 64: who thinks it is world 1
-        by(x, "first, misled", 0, 7, 15, 1, 3);
         // 3 draws 47: who knows
-        by(x, "first, told", 0, 3, 15, 1, 3);
-        by(x, "first, told", 1, 3, 9, 1, 1);
+        by(x, "first, told", 0, 3, 12, 1, 1);
+        by(x, "first, told", 1, 3, 12, 1, 1);
+        // 7 draws 64: who thinks it is world 1
+        by(x, "first, misled", 0, 7, 32, 1, 3);
+        by(x, "first, told", 1, 7, 12, 1, 1);
+        // -9 draws 95: nobody
+        by(x, "first, nobody", 0, -9, 12, 1, 1);
+        by(x, "first, nobody", 1, -9, 32, 1, 3);
         x.set(1, 30);
-        by(x, "first, dear", 1, 3, 37, 1, 1);
-        x.set(0, 3);
+        by(x, "first, dear", 1, 3, 40, 1, 1);
+        x.set(0, 2);
         by(x, "there at once, asks nobody", 1, 3, 0, 0, 0);
         AskNext fork = Checks.with("r01 10;r02 10;w60 1 0;w40 2 0;s1 1;m00 100;");
         fork.keep(1, 1, 1, 0);
@@ -673,8 +687,11 @@ public final class PromiseTest {
         by(fork, "all nobody: believes nothing", 1, 0, 40, 2, 3);
         AskNext two = Checks.with("r01 10;r02 10;w40 1 0;w60 2 0;s1 0;s1 1;m00 50;m01 50;");
         two.keep(1, 1, 2, 2);
-        // 3 draws 47, and its next 59: one says 0, one says 1; the least is believed
-        by(two, "of several the least", 0, 3, 14, 2, 1);
+        // 7 draws 64, 6, 68: they say 1, 0, 1; of one each the least is believed
+        by(two, "of several the least", 0, 7, 14, 2, 1);
+        by(two, "of several the least", 1, 7, 34, 2, 3);
+        two.keep(1, 1, 2, 3);
+        by(two, "two of three", 1, 7, 16, 3, 1);
         AskNext island = Checks.with(ISLAND, "s1 0;m00 100;a0;");
         island.keep(1, 1, 1, 0);
         by(island, "chances again once, then lost", 1, 0, 99999, 1, 1);
@@ -721,6 +738,9 @@ public final class PromiseTest {
         by(island, "once, then lost", 1, 0, 99999, 0, 1);
         island.keep(1, 1, 5, 1);
         by(island, "told what can't be reached", 0, 0, 10, 0, 1);
+        AskNext farther = Checks.with("r01 10;r02 10;w50 1 0;w30 2 0;w20 7 0;");
+        farther.keep(1, 1, 5, 0);
+        by(farther, "chances again only once", 2, 0, 99999, 0, 3);
     }
 
     private void byRefusals() {
@@ -771,14 +791,18 @@ public final class PromiseTest {
         AskNext island = Checks.with(ISLAND);
         island.keep(1, 1, 0, 0);
         due("lost as 999", island.mean(1, 2, 0), 2 * (600 + 40 * 999));
-        AskNext seeds = Checks.with(LAND);
-        seeds.keep(1, 1, 3, 0);
+        AskNext seeds = Checks.with(DOUBT);
+        seeds.keep(1, 1, 1, 0);
         int together = 0;
         for (int i = 0; i < 5; i++) {
             together += 60 * seeds.by(1, 0, MAX - 1 + i, 0) + 40 * seeds.by(1, 1, MAX - 1 + i, 0);
         }
         due("seed after seed, over the greatest", seeds.mean(1, 5, MAX - 1), together);
-        due("of a run", seeds.mean(1, 4, 1), 6000);
+        int three = seeds.mean(1, 1, 6) + seeds.mean(1, 1, 7) + seeds.mean(1, 1, 8);
+        due("seed after seed", seeds.mean(1, 3, 6), three);
+        AskNext run = Checks.with(LAND);
+        run.keep(1, 1, 3, 0);
+        due("of a run", run.mean(1, 4, 1), 6000);
     }
 
     // Promise 22
@@ -792,6 +816,14 @@ public final class PromiseTest {
         due("all", x.dusk(1, 20, 0, 9999), 2000);
         x.set(0, 1);
         due("there at once", x.dusk(1, 1, 0, 0), 60);
+        AskNext seeds = Checks.with(DOUBT);
+        seeds.keep(1, 1, 1, 0);
+        int together = 0;
+        for (int i = 0; i < 9; i++) {
+            together += seeds.dusk(1, 1, 3 + i, 12);
+        }
+        due("seed after seed", seeds.dusk(1, 9, 3, 12), together);
+        due("told, at 3 and 7 in one world or both", seeds.dusk(1, 1, 3, 12) + seeds.dusk(1, 1, 7, 12), 140);
         AskNext island = Checks.with(ISLAND);
         island.keep(1, 1, 0, 0);
         due("lost ones never", island.dusk(1, 1, 0, 9999), 60);
