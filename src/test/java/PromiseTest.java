@@ -286,6 +286,10 @@ public final class PromiseTest {
         due("next", x.next(0, 2), -4);
         due("next", x.next(0, 4), -4);
         due("next", x.next(0, 3), 3);
+        AskNext line = Checks.with("r01 60;r12 60;r23 60;r34 60;r45 60;r56 60;r67 60;w50 7 0;w50 0 0;");
+        due("all seven roads", line.way(0, 0), 420);
+        due("all seven roads back", line.way(1, 7), 420);
+        due("next back", line.next(1, 7), 6);
         AskNext twins = Checks.with("r01 2;r20 3;r01 2;r10 2;r12 1;w9 2 0;w9 2 1;w9 2 7;w9 2 1026;");
         due("the least of several", twins.next(0, 0), 0);
         due("way", twins.way(0, 0), 3);
