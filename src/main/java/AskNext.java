@@ -1190,24 +1190,33 @@ public final class AskNext {
 
         /** Goes all the WALK that was set out on: its MINUTES, or LOST. */
         int minutesThere() {
-            boolean comes = true;
-            for (int steps = 0; steps < STEPS; steps++) {
-                if (isThere()) {
-                    return minutes;
-                }
-                if (comes && rule.asksOnComing(mind)) {
-                    thinkAfterAnswer();
-                    // an ANSWER by which all would be 0 changes nothing
-                    mind.settles();
-                }
+            comeHere();
+            for (int steps = 0; steps < STEPS && !isThere(); steps++) {
                 int goneBefore = gone;
                 stepOn();
                 if (!mind.settles() && !beginsAgain()) {
                     return LOST;
                 }
-                comes = gone > goneBefore;
+                // the last step comes to a CROSSING as any other does
+                if (gone > goneBefore) {
+                    comeHere();
+                }
             }
-            return LOST;
+            return isThere() ? minutes : LOST;
+        }
+
+        private void comeHere() {
+            if (isThere() || !rule.asksOnComing(mind)) {
+                return;
+            }
+            int answer = askOnce();
+            if (at == post) {
+                mind.believe(answer);
+            } else {
+                mind.hear(land, at, answer);
+            }
+            // an ANSWER by which all would be 0 changes nothing
+            mind.settles();
         }
 
         private void stepOn() {
@@ -1264,15 +1273,6 @@ public final class AskNext {
                 }
             }
             return votes[most] > 0 ? most : NO_WORLD;
-        }
-
-        private void thinkAfterAnswer() {
-            int answer = askOnce();
-            if (at == post) {
-                mind.believe(answer);
-            } else {
-                mind.hear(land, at, answer);
-            }
         }
 
         /** ANSWER of who is met here (the cost and the seed go on in any case). */

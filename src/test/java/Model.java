@@ -458,8 +458,7 @@ final class Model {
             begin();
             arrive();
             for (int steps = 0; !isThere(); steps++) {
-                boolean last = steps == 199;
-                if (!step(last) || last) {
+                if (steps == 200 || !step()) {
                     return new Walked(NEVER_GONE, asked, gone);
                 }
             }
@@ -521,7 +520,7 @@ final class Model {
             return -1;
         }
 
-        boolean step(boolean last) {
+        boolean step() {
             int l = likeliest(mind);
             if (s.worlds.get(l).goal == at) {
                 return change(w -> s.worlds.get(w).goal == at ? 0 : 1);
@@ -538,9 +537,7 @@ final class Model {
             minutes += road.minutes;
             gone++;
             boolean changed = change(w -> isShut(w, r) ? 0 : 1);
-            if (!last) {
-                arrive();
-            }
+            arrive();
             return changed;
         }
 

@@ -6,12 +6,16 @@ import java.util.Random;
 public final class ModelTest {
     private static final int RUNS = 400;
     private static final int CALLS = 200;
+    private static final int SWAYING_RUNS = 150;
+    private static final int SEEDS = 20;
 
     private final Checks checks = new Checks();
     private final List<String> told = new ArrayList<>();
     private Random random = new Random(0);
     private AskNext x = new AskNext();
     private Model m = new Model();
+    private int thereLast = 0;
+    private int lostLast = 0;
 
     public static void main(String[] args) {
         ModelTest test = new ModelTest();
@@ -19,6 +23,13 @@ public final class ModelTest {
         int runs = args.length > 1 ? Integer.parseInt(args[1]) : RUNS;
         for (int run = first; run < first + runs; run++) {
             test.run(run);
+        }
+        for (int run = first; run < first + Math.min(runs, SWAYING_RUNS); run++) {
+            test.sway(run);
+        }
+        if (runs >= SWAYING_RUNS) {
+            test.checks.isTrue("some walks were there with the 200th step", test.thereLast > 0);
+            test.checks.isTrue("some walks were lost after it", test.lostLast > 0);
         }
         test.checks.end("ModelTest");
     }
@@ -34,6 +45,52 @@ public final class ModelTest {
         for (int i = 0; i < CALLS; i++) {
             call(random.nextInt(40));
         }
+    }
+
+    /** Long walks, by seeds one behind the other: those who are met mostly send one back. */
+    private void sway(int seed) {
+        random = new Random(seed);
+        x = new AskNext();
+        m = new Model();
+        told.clear();
+        int worlds = tellSwayingLand();
+        int first = random.nextInt();
+        for (int kind = 3; kind <= 4; kind++) {
+            int figure = upTo(3) > 0 ? 99 : 50 + upTo(50);
+            same("keep 2 1 " + kind + " " + figure, x.keep(2, 1, kind, figure), m.keep(2, 1, kind, figure));
+            for (int z = first; z < first + SEEDS; z++) {
+                for (int w = 0; w < worlds; w++) {
+                    swayOnce(w, z);
+                }
+            }
+            same("mean 2 " + first, x.mean(2, SEEDS, first), m.mean(2, SEEDS, first));
+            int minute = 199 + upTo(3);
+            same("dusk 2 " + minute, x.dusk(2, SEEDS, first, minute), m.dusk(2, SEEDS, first, minute));
+        }
+        best(2, first);
+        same("post " + first, x.post(2, first), m.post(2, first));
+    }
+
+    private void swayOnce(int w, int z) {
+        for (int what = 0; what <= 2; what++) {
+            same("by 2 " + w + " " + z + " " + what, x.by(2, w, z, what), m.by(2, w, z, what));
+        }
+        if (m.by(2, w, z, 2) == 200) {
+            boolean lost = m.by(2, w, z, 0) == 99999;
+            lostLast += lost ? 1 : 0;
+            thereLast += lost ? 0 : 1;
+        }
+    }
+
+    private int tellSwayingLand() {
+        boolean third = random.nextInt(3) == 0;
+        int first = third ? 1 : 0;
+        int knowing = 1 + upTo(2);
+        tell("r01 " + (1 + upTo(3)) + ";r12 1;r23 1;" + (random.nextBoolean() ? "r24 9;" : "r34 60;"));
+        tell((third ? "w34 " + (4 + upTo(2)) + " " + upTo(2) * 8 + ";w33 0 0;w33 3 0;" : "w50 0 0;w50 3 0;"));
+        tell("s0 0;s1 " + first + ";s1 " + (first + 1) + ";a" + upTo(3) + ";b" + (1 + upTo(2)) + ";");
+        tell("m10 " + knowing + ";m12 " + (100 - knowing) + ";m20 " + knowing + ";m21 " + (100 - knowing) + ";");
+        return third ? 3 : 2;
     }
 
     private void same(String call, long got, long want) {

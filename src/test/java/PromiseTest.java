@@ -40,6 +40,7 @@ public final class PromiseTest {
         test.byPlain();
         test.byFirstAndMost();
         test.byThinkAndBack();
+        test.lastStep();
         test.byTold();
         test.byRefusals();
         test.mean();
@@ -727,7 +728,44 @@ public final class PromiseTest {
         by(lie, "an answer by which all would be 0 changes nothing", 2, 0, 11, 2, 2);
         AskNext swaying = Checks.with("r01 1;r02 60;r13 60;w50 2 0;w49 3 0;w1 7 0;s1 0;s1 1;s0 0;", "m01 97;m02 3;m10 97;m12 3;");
         swaying.keep(1, 1, 3, 0);
-        by(swaying, "lost after 200 steps", 2, 337, 99999, 200, 200);
+        by(swaying, "lost after 200 steps, asks where the last one came to", 2, 337, 99999, 201, 200);
+        swaying.keep(1, 1, 4, 99);
+        by(swaying, "back asks there as well", 2, 337, 99999, 201, 200);
+    }
+
+    /** One sways between 1 and 2, as who is met there mostly misleads. */
+    private AskNext swaying(int kind, int figure) {
+        AskNext x = Checks.with("r12 1;r23 1;r14 60;r45 60;r56 60;r60 60;w50 0 0;w50 3 0;",
+                "s0 0;s1 0;s1 1;m10 1;m12 99;m20 1;m21 99;b1;a0;");
+        x.keep(1, 1, kind, figure);
+        return x;
+    }
+
+    // Promises 20 to 23, where a walk makes 200 steps
+    private void lastStep() {
+        for (int kind = 3; kind <= 4; kind++) {
+            AskNext x = swaying(kind, 99);
+            by(x, "there with the 200th step", 1, 56, 200, 200, 200);
+            // sure from crossing 1 on, where four roads are left: back asks no more
+            by(x, "there with the 200th step", 0, 882, 436, kind == 3 ? 200 : 197, 200);
+            by(x, "not there with the 200th step", 1, 894, 99999, 201, 200);
+            x.set(1, 30);
+            by(x, "there, and it costs much", 1, 56, 6200, 200, 200);
+        }
+        AskNext x = swaying(3, 0);
+        due("there as often as told", x.mean(1, 1, 56), 50 * 276 + 50 * 200);
+        due("lost as 999", x.mean(1, 1, 894), 50 * 436 + 50 * 999);
+        due("there by its minute", x.dusk(1, 1, 56, 200), 50);
+        due("not ahead of it", x.dusk(1, 1, 56, 199), 0);
+        due("never, if it is lost", x.dusk(1, 1, 894, 9999), 50);
+        x.row(6, 0, 2);
+        x.put(6, 1, 3);
+        due("a rule is 36100", x.best(6, 0, 1, 56), 1);
+        due("a rule is 36100, one is lost", x.best(6, 0, 1, 894), 0);
+        AskNext barred = Checks.with("r12 1;r23 1;r01 1;w34 5 0;w33 0 0;w33 3 0;",
+                "s0 0;s1 1;s1 2;m10 1;m12 99;m20 1;m21 99;b1;a1;");
+        barred.keep(1, 1, 3, 0);
+        by(barred, "a step without a road is one of 200", 1, 1, 99999, 200, 199);
     }
 
     private void byTold() {
