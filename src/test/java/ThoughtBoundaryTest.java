@@ -15,6 +15,7 @@ public final class ThoughtBoundaryTest {
         test.timesTheHundredths();
         test.dividedByWhatDividesAll();
         test.aboveTheHeaviest();
+        test.oneAboveTheHeaviest();
         test.anyOneAbove();
         test.whileOneIsAbove();
         test.halvedAndCut();
@@ -119,6 +120,27 @@ public final class ThoughtBoundaryTest {
         thought("just below", below, 99999996505L, 1);
         AskNext above = weighed(0, 71, 71, 62, 59, 29, 17, 11);
         thought("just above", above, 50000000347L, 1);
+    }
+
+    /** 100000000001 is no product of hundredths: a run of ANSWERS that comes to it by halving. */
+    private void oneAboveTheHeaviest() {
+        String worlds = "r01 1;w25 1 0;w25 1 1;w25 1 0;w25 1 1;s0 0;s1 0;s3 0;s1 1;";
+        int[] factors = {49, 89, 95, 85, 63, 71};
+        AskNext x = Checks.with(worlds);
+        // ANSWER 0 comes with so many hundredths if WORLD 0 is so (who knows), ANSWER 1 too (who misleads); else with 1
+        Checks.tell(x, "m60 52;m61 1;m62 46;m63 1;m70 42;m71 1;m72 36;m73 1;");
+        for (int c = 0; c < factors.length; c++) {
+            Checks.tell(x, "m" + c + "0 " + (factors[c] - 1) + ";m" + c + "1 1;");
+        }
+        x.found(0, true);
+        int[][] answers = {{6, 0}, {6, 1}, {7, 0}, {7, 0}, {7, 1}, {0, 0}, {1, 0}, {2, 0}, {3, 0}, {4, 0}};
+        for (int[] answer : answers) {
+            x.answer(answer[0], answer[1]);
+        }
+        // times 71 it is 6400000000112, halved six times 100000000001, and that once more
+        thought("ahead of it", x, 90140845072L, 0, 1, 0);
+        x.answer(5, 0);
+        thought("one above", x, 50000000000L, 0, 1, 0);
     }
 
     private void anyOneAbove() {
